@@ -4,7 +4,8 @@ import java.util.NoSuchElementException;
 
 /**
  * An index of documents that does not fit into memory. Words in capitals are the terms of the
- * document DOC.md.
+ * document DOC.md. Rows are as long as its limits ask; that their ends are looked at all the same keeps
+ * rule 7 of LANGUAGE.md to be seen at each place.
  */
 public final class IndexBuilder {
     private static final int WORDS = 100;
@@ -494,12 +495,12 @@ public final class IndexBuilder {
             return has(b, i) ? cells[b * BLOCK_BYTES + i] : 0;
         }
 
-        boolean hasRoomFor(Bytes bytes) {
+        boolean hasRoomFor(int bytes) {
             return blocksFor(bytes) <= free;
         }
 
         Run write(Bytes bytes, int level) {
-            int[] blocks = takeLeast(Math.min(blocksFor(bytes), free));
+            int[] blocks = takeLeast(Math.min(blocksFor(bytes.size()), free));
             for (int k = 0; k < blocks.length; k++) {
                 int start = blocks[k] * BLOCK_BYTES;
                 for (int i = 0; i < BLOCK_BYTES && start + i < cells.length; i++) {
@@ -535,8 +536,8 @@ public final class IndexBuilder {
             }
         }
 
-        private static int blocksFor(Bytes bytes) {
-            return (bytes.size() + BLOCK_BYTES - 1) / BLOCK_BYTES;
+        private static int blocksFor(int bytes) {
+            return (bytes + BLOCK_BYTES - 1) / BLOCK_BYTES;
         }
 
         private int[] takeLeast(int wanted) {
@@ -658,7 +659,7 @@ public final class IndexBuilder {
             }
             int greatest = 0;
             for (int r = 0; r < row.size(); r++) {
-                greatest = Math.max(greatest, levelOf(r));
+                greatest = Math.max(greatest, row.get(r).level);
             }
             return mergeLevels(0, greatest);
         }
@@ -678,7 +679,7 @@ public final class IndexBuilder {
         private int leastFullLevel() {
             int least = -1;
             for (int r = 0; r < row.size(); r++) {
-                int level = levelOf(r);
+                int level = row.get(r).level;
                 if ((least < 0 || level < least) && runsOf(level) >= fan) {
                     least = level;
                 }
@@ -689,7 +690,7 @@ public final class IndexBuilder {
         private int runsOf(int level) {
             int runs = 0;
             for (int r = 0; r < row.size(); r++) {
-                if (levelOf(r) == level) {
+                if (row.get(r).level == level) {
                     runs++;
                 }
             }
@@ -699,11 +700,11 @@ public final class IndexBuilder {
         /** MERGES the RUNS of these LEVELS, of which the greatest must be one of theirs; false: NO ROOM. */
         private boolean mergeLevels(int least, int greatest) {
             gathered.clear();
-            int first = -1;
+            int first = row.size();
             for (int r = 0; r < row.size(); r++) {
                 Run run = row.get(r);
                 if (run.isBetween(least, greatest)) {
-                    first = first < 0 ? r : first;
+                    first = Math.min(first, r);
                     readPart(run);
                     gathered.mergeIn(part);
                 }
@@ -713,7 +714,7 @@ public final class IndexBuilder {
                 return false;
             }
             // the new RUN has a greater LEVEL, so that it stays when the old ones go
-            writeAt(Math.max(first, 0), greatest + 1);
+            writeAt(first, greatest + 1);
             removeLevels(least, greatest);
             mergesDone++;
             return true;
@@ -728,7 +729,7 @@ public final class IndexBuilder {
         private boolean fitsOnDisk() {
             gathered.keepLive(documents);
             bytes.encode(gathered);
-            return disk.hasRoomFor(bytes);
+            return disk.hasRoomFor(bytes.size());
         }
 
         private void writeAt(int place, int level) {

@@ -44,7 +44,7 @@ public final class ModelTest {
             dice = seed * 7919L + 17;
             int memory = 15 + roll(40);
             int fan = 1 + roll(5);
-            int blocks = roll(3) == 0 ? 5 + roll(60) : 5 + roll(12);
+            int blocks = roll(3) == 0 ? 5 + roll(12) : 10 + roll(55);
             words = roll(3) == 0 ? 100 : 1 + roll(12);
             longest = 1 + roll(20);
             questions = 1 + roll(20);

@@ -19,6 +19,8 @@ public final class PromiseTest {
         promise5();
         promise5Levels();
         promise5MergeWithoutRoom();
+        promise5LeastLevelFirst();
+        promise5PlaceInTheRow();
         promise6();
         promise6NoRoom();
         promise6Dropped();
@@ -325,6 +327,53 @@ public final class PromiseTest {
         CHECK.due("all free", x.count(4), 8);
     }
 
+    /** Two RUNS of LEVEL 1, with 3 and 2 of the 8 BLOCKS, whose MERGE has NO ROOM. */
+    private static IndexBuilder stuck() {
+        IndexBuilder x = new IndexBuilder(20, 2, 8);
+        addRow(x, 0, 4);
+        x.flush();
+        addRow(x, 10, 4);
+        x.flush();
+        addRow(x, 20, 2);
+        x.flush();
+        addRow(x, 30, 3);
+        x.flush();
+        row("stuck", levels(x), 1, 1);
+        CHECK.due("no room", x.count(8), 1);
+        return x;
+    }
+
+    private static void promise5LeastLevelFirst() {
+        IndexBuilder x = stuck();
+        add(x, 40);
+        x.flush();
+        row("level 1 has no room", levels(x), 1, 1, 0);
+        CHECK.due("no room", x.count(8), 2);
+        add(x, 50);
+        x.flush();
+        row("level 0 is merged before level 1 is tried", levels(x), 1, 1, 1);
+        CHECK.due("three are more than the fan", x.count(8), 3);
+        CHECK.due("done", x.count(7), 3);
+        x.drop(0);
+        x.drop(1);
+        x.drop(2);
+        x.drop(3);
+        add(x, 60);
+        CHECK.due("all of the level, not only as many as the fan", x.flush(), 2);
+        row("levels", levels(x), 2, 0);
+    }
+
+    private static void promise5PlaceInTheRow() {
+        IndexBuilder x = stuck();
+        x.drop(0);
+        x.drop(1);
+        add(x, 40);
+        x.flush();
+        row("where the first stood", levels(x), 2, 0);
+        CHECK.due("left out", x.run(0, 3), 26);
+        CHECK.due("found", x.find(20, 40, 1), 2);
+    }
+
     private static void promise6() {
         IndexBuilder x = new IndexBuilder(48, 4, 60);
         CHECK.due("nothing", x.finish(), 0);
@@ -562,6 +611,9 @@ public final class PromiseTest {
         CHECK.due("first block", x.run(1, 2), 0);
         CHECK.due("blocks round the other run", x.run(1, 1), 4);
         row("its last block", bytes(x, 80, 4), 1, 9, 127, 0);
+        add(x, 1);
+        x.flush();
+        row("no old bytes behind the last", bytes(x, 96, 16), 1, 1, 3, 1, 0, 127, 0, 0, 0, 0, 0, 0, 0, 0, 0, 0);
     }
 
     private static void promise13() {
