@@ -6,6 +6,22 @@ final class Check {
 
     private int wrong = 0;
     private int all = 0;
+    private int parts = 0;
+    private String part = "";
+
+    /** A test of its own: what fails in it bears its name, and an exception out of it fails it alone. */
+    void part(String name, Runnable steps) {
+        parts++;
+        part = name + ": ";
+        int before = all;
+        try {
+            steps.run();
+        } catch (RuntimeException e) {
+            tell("threw " + e);
+        }
+        yes("something was checked", all > before);
+        part = "";
+    }
 
     void due(String what, double got, double want) {
         all++;
@@ -46,7 +62,8 @@ final class Check {
     }
 
     void end() {
-        System.out.println(wrong + " of " + all + " checks failed");
+        String inParts = parts == 0 ? "" : " in " + parts + " tests";
+        System.out.println(wrong + " of " + all + " checks failed" + inParts);
         if (wrong != 0) {
             System.exit(1);
         }
@@ -55,7 +72,7 @@ final class Check {
     private void tell(String text) {
         wrong++;
         if (wrong <= 20) {
-            System.out.println(text);
+            System.out.println(part + text);
         }
     }
 }

@@ -6,11 +6,13 @@ import java.util.TreeSet;
 
 /**
  * Long runs of calls, the same every time, on the program and on a plain model of the document side by
- * side. The model answers questions from the documents themselves, not from what stands on the disk.
+ * side. The model answers questions from the documents themselves, not from what stands on the disk. An
+ * object has 512 calls, those that only look at it among them, for what later ones answer is free.
  */
 public final class ModelTest {
-    private static final int RUNS = 400;
+    private static final int RUNS = 6000;
     private static final int CALLS = 512;
+    private static final int LAST_LOOKS = 120;
 
     public static void main(String[] args) {
         Check check = new Check();
@@ -20,8 +22,8 @@ public final class ModelTest {
         }
         System.out.println("seen: " + java.util.Arrays.toString(seen));
         // runs that never meet the rare cases would prove nothing about them
-        check.yes("merges, merges without room, no room for the buffer", seen[0] > 500 && seen[1] > 200 && seen[2] > 200);
-        check.yes("levels above 2, merges into nothing, 40 documents", seen[3] > 50 && seen[4] > 50 && seen[5] > 50);
+        check.yes("merges, merges without room, no room", seen[0] > 5000 && seen[1] > 2000 && seen[2] > 2000);
+        check.yes("levels above 2, merges into nothing, 40 documents", seen[3] > 200 && seen[4] > 200 && seen[5] > 200);
         check.end();
     }
 
@@ -36,7 +38,9 @@ public final class ModelTest {
         private final int longest;
         private final int questions;
         private final int drops;
+        private final int looks;
         private long dice;
+        private int calls = 0;
 
         Play(int seed, Check check, int[] seen) {
             this.check = check;
@@ -49,6 +53,7 @@ public final class ModelTest {
             longest = 1 + roll(20);
             questions = 1 + roll(20);
             drops = roll(12);
+            looks = 4 + roll(80);
             name = "seed " + seed + " (" + memory + ", " + fan + ", " + blocks + ")";
             x = new IndexBuilder(memory, fan, blocks);
             m = new Model(memory, fan, blocks);
@@ -60,9 +65,14 @@ public final class ModelTest {
         }
 
         void play() {
-            for (int i = 0; i < CALLS && !check.failed(); i++) {
-                step(i);
-                compareState(i);
+            while (calls < CALLS - LAST_LOOKS && !check.failed()) {
+                step();
+                if (roll(looks) == 0) {
+                    look(roll(4));
+                }
+            }
+            while (calls < CALLS && !check.failed()) {
+                look(roll(4));
             }
             seen[0] += m.mergesDone;
             seen[1] += m.mergesWithoutRoom;
@@ -71,96 +81,100 @@ public final class ModelTest {
             seen[5] += m.documents.size() == 40 ? 1 : 0;
         }
 
-        private void step(int i) {
+        private void step() {
             int choice = roll(60 + questions + drops);
             if (choice < 40) {
                 if (m.open.size() >= longest || roll(12) == 0) {
-                    both(i, "close", x::close, m::close);
+                    both("close", x::close, m::close);
                 } else {
                     int w = roll(words);
-                    both(i, "word " + w, () -> x.word(w), () -> m.word(w));
+                    both("word " + w, () -> x.word(w), () -> m.word(w));
                 }
             } else if (choice < 46) {
-                both(i, "flush", x::flush, m::flush);
+                both("flush", x::flush, m::flush);
             } else if (choice < 48) {
-                both(i, "finish", x::finish, m::finish);
+                both("finish", x::finish, m::finish);
             } else if (choice < 52) {
-                odd(i);
+                odd();
             } else if (choice < 60 + questions) {
-                question(i);
+                question();
             } else {
                 int d = roll(Math.min(41, m.documents.size() + 1));
-                both(i, "drop " + d, () -> x.drop(d), () -> m.drop(d));
+                both("drop " + d, () -> x.drop(d), () -> m.drop(d));
             }
         }
 
-        private void question(int i) {
+        private void question() {
             int v = roll(words);
             int w = roll(words);
             if (roll(2) == 0) {
                 int how = roll(4);
-                both(i, "find " + v + " " + w + " " + how, () -> x.find(v, w, how), () -> m.find(v, w, how));
+                both("find " + v + " " + w + " " + how, () -> x.find(v, w, how), () -> m.find(v, w, how));
             } else {
-                both(i, "rank " + v + " " + w, () -> x.rank(v, w), () -> m.rank(v, w));
+                both("rank " + v + " " + w, () -> x.rank(v, w), () -> m.rank(v, w));
             }
         }
 
-        private void odd(int i) {
+        private void odd() {
             int a = roll(6) == 0 ? roll(2) * 201 - 101 : roll(104) - 2;
             int b = roll(104) - 2;
             int c = roll(6) - 1;
             switch (roll(4)) {
-                case 0: both(i, "word " + a, () -> x.word(a), () -> m.word(a)); break;
-                case 1: both(i, "find " + a + " " + b, () -> x.find(a, b, c), () -> m.find(a, b, c)); break;
-                case 2: both(i, "rank " + a + " " + b, () -> x.rank(a, b), () -> m.rank(a, b)); break;
-                default: both(i, "drop " + a, () -> x.drop(a), () -> m.drop(a)); break;
+                case 0: both("word " + a, () -> x.word(a), () -> m.word(a)); break;
+                case 1: both("find " + a + " " + b, () -> x.find(a, b, c), () -> m.find(a, b, c)); break;
+                case 2: both("rank " + a + " " + b, () -> x.rank(a, b), () -> m.rank(a, b)); break;
+                default: both("drop " + a, () -> x.drop(a), () -> m.drop(a)); break;
             }
         }
 
-        private void both(int i, String call, Check.Call got, Check.Call want) {
+        private void both(String call, Check.Call got, Check.Call want) {
+            if (calls >= CALLS) {
+                return;
+            }
+            calls++;
             String due = Check.outcome(want);
-            check.due(name + ", call " + i + ": " + call, Check.outcome(got), due);
+            check.due(name + ", call " + calls + ": " + call, Check.outcome(got), due);
             seen[2] += due.equals("UnsupportedOperationException") && !call.startsWith("score") ? 1 : 0;
         }
 
-        private void compareState(int i) {
-            for (int what = -1; what <= 10; what++) {
-                check.due(name + ", call " + i + ": count " + what, x.count(what), m.count(what));
-            }
-            if (i % 4 == 0) {
-                compareRuns(i);
-                compareResult(i);
-            }
-            if (i % 8 == 0) {
-                compareDisk(i);
+        private void look(int at) {
+            switch (at) {
+                case 0: lookAtCounts(); break;
+                case 1: lookAtRuns(); break;
+                case 2: lookAtResult(); break;
+                default: lookAtBlock(roll(m.owner.length + 2) - 1); break;
             }
         }
 
-        private void compareRuns(int i) {
+        private void lookAtCounts() {
+            for (int i = -1; i <= 10; i++) {
+                int what = i;
+                both("count " + what, () -> x.count(what), () -> m.count(what));
+            }
+        }
+
+        private void lookAtRuns() {
             for (int r = -1; r <= m.runs.size(); r++) {
                 for (int what = -1; what <= 4; what++) {
                     int run = r;
                     int part = what;
-                    both(i, "run " + r + " " + what, () -> x.run(run, part), () -> m.run(run, part));
+                    both("run " + r + " " + what, () -> x.run(run, part), () -> m.run(run, part));
                 }
             }
         }
 
-        private void compareResult(int i) {
+        private void lookAtResult() {
             for (int k = -1; k <= m.result.size(); k++) {
                 int at = k;
-                both(i, "result " + k, () -> x.result(at), () -> m.result(at));
-                both(i, "score " + k, () -> x.score(at), () -> m.score(at));
+                both("result " + k, () -> x.result(at), () -> m.result(at));
+                both("score " + k, () -> x.score(at), () -> m.score(at));
             }
         }
 
-        private void compareDisk(int i) {
-            for (int b = -1; b <= m.owner.length; b++) {
-                for (int j = -1; j <= 16; j++) {
-                    int block = b;
-                    int at = j;
-                    both(i, "byteOf " + b + " " + j, () -> x.byteOf(block, at), () -> m.byteOf(block, at));
-                }
+        private void lookAtBlock(int b) {
+            for (int i = -1; i <= 16; i++) {
+                int at = i;
+                both("byteOf " + b + " " + at, () -> x.byteOf(b, at), () -> m.byteOf(b, at));
             }
         }
     }

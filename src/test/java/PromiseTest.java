@@ -1,15 +1,5 @@
-import java.util.NoSuchElementException;
-
 /** A part for each promise of the document: ordinary inputs, the edges that it names, wrong inputs. */
-public final class PromiseTest {
-    private static final Check CHECK = new Check();
-    private static final Class<?> ARGUMENT = IllegalArgumentException.class;
-    private static final Class<?> STATE = IllegalStateException.class;
-    private static final Class<?> NO_ROOM = UnsupportedOperationException.class;
-    private static final Class<?> NONE = NoSuchElementException.class;
-    private static final Class<?> INDEX = IndexOutOfBoundsException.class;
-    private static final int[] FAR = {Integer.MIN_VALUE, Integer.MAX_VALUE};
-
+public final class PromiseTest extends Steps {
     public static void main(String[] args) {
         promise1();
         promise2();
@@ -33,50 +23,6 @@ public final class PromiseTest {
         promise12();
         promise13();
         CHECK.end();
-    }
-
-    private static int add(IndexBuilder x, int... words) {
-        for (int w : words) {
-            x.word(w);
-        }
-        return x.close();
-    }
-
-    /** A DOCUMENT of so many WORDS, all different: five bytes for each in a RUN of its own. */
-    private static int addRow(IndexBuilder x, int from, int many) {
-        for (int w = from; w < from + many; w++) {
-            x.word(w);
-        }
-        return x.close();
-    }
-
-    private static void row(String what, int[] got, int... want) {
-        CHECK.due(what, java.util.Arrays.toString(got), java.util.Arrays.toString(want));
-    }
-
-    private static int[] results(IndexBuilder x, int many) {
-        int[] all = new int[many];
-        for (int k = 0; k < many; k++) {
-            all[k] = x.result(k);
-        }
-        CHECK.throwing("result behind the last", NONE, () -> x.result(many));
-        return all;
-    }
-
-    private static int[] bytes(IndexBuilder x, int from, int many) {
-        int[] all = new int[many];
-        for (int i = 0; i < many; i++) {
-            all[i] = x.byteOf((from + i) / 16, (from + i) % 16);
-        }
-        return all;
-    }
-
-    private static int[] levels(IndexBuilder x) {
-        int[] all = new int[x.count(3)];
-        for (int r = 0; r < all.length; r++) {
-            all[r] = x.run(r, 0);
-        }
-        return all;
     }
 
     private static int postingsBeforeFlush(int memory) {
@@ -180,7 +126,7 @@ public final class PromiseTest {
             x.word(w);
         }
         String before = state(x);
-        CHECK.throwing("close", NO_ROOM, x::close);
+        CHECK.throwing("close", UNSUPPORTED, x::close);
         CHECK.due("nothing changes", state(x), before);
         x.drop(1);
         CHECK.due("the buffer's document is dropped: no run is needed", x.close(), 2);
@@ -191,24 +137,6 @@ public final class PromiseTest {
         }
         x.word(1);
         CHECK.throwing("40 come before no room", STATE, x::close);
-    }
-
-    private static String state(IndexBuilder x) {
-        StringBuilder all = new StringBuilder();
-        for (int what = 0; what <= 9; what++) {
-            all.append(x.count(what)).append(' ');
-        }
-        for (int r = 0; r < x.count(3); r++) {
-            for (int what = 0; what <= 3; what++) {
-                all.append(x.run(r, what)).append(' ');
-            }
-        }
-        for (int b = 0; b < 8; b++) {
-            for (int i = 0; i < 16; i++) {
-                all.append(x.byteOf(b, i)).append(' ');
-            }
-        }
-        return all.toString();
     }
 
     private static void promise4() {
@@ -251,7 +179,7 @@ public final class PromiseTest {
         y.flush();
         addRow(y, 20, 20);
         String before = state(y);
-        CHECK.throwing("flush", NO_ROOM, y::flush);
+        CHECK.throwing("flush", UNSUPPORTED, y::flush);
         CHECK.due("nothing changes", state(y), before);
         IndexBuilder z = new IndexBuilder(20, 2, 8);
         add(z, 3, 4);
@@ -315,7 +243,7 @@ public final class PromiseTest {
         CHECK.due("no room", x.count(8), 1);
         add(x, 1);
         x.drop(0);
-        CHECK.throwing("no room for one more", NO_ROOM, x::flush);
+        CHECK.throwing("no room for one more", UNSUPPORTED, x::flush);
         x.drop(2);
         CHECK.due("nothing to write, but merges are tried", x.flush(), 2);
         CHECK.due("no room again", x.count(8), 2);
@@ -325,22 +253,6 @@ public final class PromiseTest {
         CHECK.due("all are dropped: a merge into nothing", x.flush(), 0);
         CHECK.due("is done", x.count(7), 1);
         CHECK.due("all free", x.count(4), 8);
-    }
-
-    /** Two RUNS of LEVEL 1, with 3 and 2 of the 8 BLOCKS, whose MERGE has NO ROOM. */
-    private static IndexBuilder stuck() {
-        IndexBuilder x = new IndexBuilder(20, 2, 8);
-        addRow(x, 0, 4);
-        x.flush();
-        addRow(x, 10, 4);
-        x.flush();
-        addRow(x, 20, 2);
-        x.flush();
-        addRow(x, 30, 3);
-        x.flush();
-        row("stuck", levels(x), 1, 1);
-        CHECK.due("no room", x.count(8), 1);
-        return x;
     }
 
     private static void promise5LeastLevelFirst() {
@@ -398,20 +310,20 @@ public final class PromiseTest {
     private static void promise6NoRoom() {
         IndexBuilder x = new IndexBuilder(20, 4, 8);
         addRow(x, 0, 14);
-        CHECK.throwing("no room for the merge", NO_ROOM, x::finish);
+        CHECK.throwing("no room for the merge", UNSUPPORTED, x::finish);
         row("the flush stays", levels(x), 0);
         CHECK.due("the buffer is empty", x.count(2), 0);
         CHECK.due("counted", x.count(8), 1);
         CHECK.due("read", x.count(5), 5);
         addRow(x, 0, 14);
-        CHECK.throwing("no room for the buffer", NO_ROOM, x::finish);
+        CHECK.throwing("no room for the buffer", UNSUPPORTED, x::finish);
         CHECK.due("no merge is tried", x.count(8), 1);
         CHECK.due("the buffer stays", x.count(2), 14);
         IndexBuilder y = new IndexBuilder(20, 2, 8);
         addRow(y, 0, 12);
         y.flush();
         addRow(y, 20, 12);
-        CHECK.throwing("two merges without room", NO_ROOM, y::finish);
+        CHECK.throwing("two merges without room", UNSUPPORTED, y::finish);
         CHECK.due("counted", y.count(8), 2);
         CHECK.due("read", y.count(5), 16);
     }
@@ -560,7 +472,7 @@ public final class PromiseTest {
         CHECK.throwing("a wrong question", ARGUMENT, () -> x.find(1, 1, 4));
         CHECK.due("is none", x.score(3), 1.0 / 3);
         x.find(3, 0, 1);
-        CHECK.throwing("of find", NO_ROOM, () -> x.score(0));
+        CHECK.throwing("of find", UNSUPPORTED, () -> x.score(0));
         CHECK.throwing("none comes first", NONE, () -> x.score(40));
         x.find(98, 99, 1);
         CHECK.throwing("an empty one of find", NONE, () -> x.score(0));
@@ -635,18 +547,10 @@ public final class PromiseTest {
         addRow(x, 0, 20);
         x.flush();
         row("fuller", counts(x), 4, 3, 0, 2, 1, 3, 10, 1, 0, 0);
-        CHECK.throwing("finish", NO_ROOM, x::finish);
+        CHECK.throwing("finish", UNSUPPORTED, x::finish);
         row("no room", counts(x), 4, 3, 0, 2, 1, 11, 10, 1, 1, 0);
         for (int what : new int[] {-1, 10, FAR[0], FAR[1]}) {
             CHECK.due("count " + what, x.count(what), -1);
         }
-    }
-
-    private static int[] counts(IndexBuilder x) {
-        int[] all = new int[10];
-        for (int what = 0; what < 10; what++) {
-            all[what] = x.count(what);
-        }
-        return all;
     }
 }
