@@ -3,9 +3,9 @@ import java.util.Arrays;
 import java.util.NoSuchElementException;
 
 /**
- * An index of documents that does not fit into memory. Words in capitals are the terms of the
- * document DOC.md. Rows are as long as its limits ask; that their ends are looked at all the same keeps
- * rule 7 of LANGUAGE.md to be seen at each place.
+ * An index of documents that does not fit into memory. Words in capitals are terms of DOC.md. Its limits
+ * set the length of each row; an index is looked at all the same before it is used, so that rule 7 of
+ * LANGUAGE.md can be seen to hold at each place.
  */
 public final class IndexBuilder {
     private static final int WORDS = 100;
